@@ -108,23 +108,32 @@ public final class ProductTest {
         }
     }
 
-    /** The reduced forms with the largest a, where the program's longs have the least to spare. */
+    /** Where the program's longs have the least to spare. */
     private void largestForms() {
         int d = 999999999;
         fresh(d);
-        List<SlowForm> large = new ArrayList<>();
-        for (long a = 18257; a > 0 && large.size() < 40; a--) {
-            for (long b = -a + 1; b <= a; b++) {
-                SlowForm form = ((b * b + d) % (4 * a) != 0) ? null : SlowForm.with(d, a, b);
-                if (form != null && form.isReduced()) {
-                    large.add(form);
-                }
-            }
-        }
-        for (SlowForm f : large) {
-            for (SlowForm g : large) {
+        allPairsOf(d, firstForms(d, 18257, true));
+        allPairsOf(d, firstForms(d, 100000, false));
+    }
+
+    private void allPairsOf(int d, List<SlowForm> forms) {
+        for (SlowForm f : forms) {
+            for (SlowForm g : forms) {
                 pair(d, f, g);
             }
         }
+    }
+
+    private static List<SlowForm> firstForms(int d, long largestA, boolean reduced) {
+        List<SlowForm> found = new ArrayList<>();
+        for (long a = largestA; a > 0 && found.size() < 40; a--) {
+            for (long b = -a + 1; b <= a; b++) {
+                SlowForm form = (b * b + d) % (4 * a) != 0 ? null : SlowForm.with(d, a, b);
+                if (form != null && (form.isReduced() || !reduced)) {
+                    found.add(form);
+                }
+            }
+        }
+        return found;
     }
 }

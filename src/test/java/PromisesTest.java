@@ -1,3 +1,4 @@
+import java.math.BigInteger;
 import java.util.NoSuchElementException;
 
 /** The promises of the document by number: ordinary inputs, the edges it names, and wrong inputs. */
@@ -25,6 +26,7 @@ public final class PromisesTest {
         test.promise7Drop();
         test.promise8Rounds();
         test.promise9Told();
+        test.promise9Primes();
         test.promise10Form();
         test.promise11Verify();
         test.promise12Put();
@@ -306,6 +308,28 @@ public final class PromisesTest {
         check.numbers("NONE is the running one", clock.told(NONE, 0), 9);
         check.throwing("what, of the running one", INDEX, () -> clock.told(NONE, 3));
         check.numbers("the booked one stays", clock.told(0, 0), 3);
+    }
+
+    /** So many that some searches pass the square of a prime, or start at a prime. */
+    private void promise9Primes() {
+        for (int d = 7; d < 40000; d += 8) {
+            SquaringClock clock = of(d);
+            int t = 1 + d % 5;
+            clock.begin(t);
+            clock.work(t);
+            int h = 2;
+            for (int which = 0; which < 2; which++) {
+                h = mixed(mixed(h, clock.form(NONE, which, 0)), clock.form(NONE, which, 1));
+            }
+            BigInteger least = BigInteger.valueOf((mixed(h, t) & 0xFFFF) + 3);
+            check.numbers("prime of " + d, clock.told(NONE, 2),
+                    least.subtract(BigInteger.ONE).nextProbablePrime().longValue());
+        }
+    }
+
+    private static int mixed(int h, int v) {
+        int product = (h ^ v) * 0x5BD1E995;
+        return product ^ (product >>> 15);
     }
 
     private void promise10Form() {
