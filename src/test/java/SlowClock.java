@@ -40,7 +40,7 @@ final class SlowClock {
         return k ^ (k >>> 15);
     }
 
-    private static int primeOf(SlowForm x, SlowForm y, int t) {
+    static int primeOf(SlowForm x, SlowForm y, int t) {
         int h = 2;
         for (long v : new long[] {x.part(0), x.part(1), y.part(0), y.part(1), t}) {
             h = mix(h, v);
